@@ -1,0 +1,49 @@
+/** The numbers of the document, and objects that many tests begin with. */
+final class Kinds {
+    static final int NULL = 0;
+    static final int NUMBER = 1;
+    static final int BOOLEAN = 2;
+    static final int NAME = 3;
+    static final int STRING = 4;
+    static final int ARRAY = 5;
+    static final int PACKED = 6;
+    static final int DICTIONARY = 7;
+    static final int MARK = 8;
+    static final int FILE = 9;
+    static final int OPERATOR = 10;
+    static final int SAVE = 11;
+
+    static final int EXECUTABLE = 0;
+    static final int ACCESS = 1;
+    static final int GROWS = 2;
+    static final int ITS_NUMBER = 3;
+    static final int CAPACITY = 4;
+
+    private Kinds() {
+    }
+
+    /** One object of each kind, so that object k is of kind k. */
+    static ObjectRows oneOfEach() {
+        ObjectRows x = new ObjectRows();
+        for (int kind = 1; kind <= SAVE; kind++) {
+            x.make(kind, 1);
+        }
+        return x;
+    }
+
+    /** A STRING with these characters as its bytes. */
+    static int text(ObjectRows x, String text) {
+        int made = x.make(STRING, text.length());
+        for (int i = 0; i < text.length(); i++) {
+            x.put(made, i, text.charAt(i));
+        }
+        return made;
+    }
+
+    /** NULLS until there are so many objects. */
+    static void fill(ObjectRows x, int objects) {
+        while (x.kind(objects - 1) < 0) {
+            x.make(NULL, 0);
+        }
+    }
+}
