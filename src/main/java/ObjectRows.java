@@ -81,9 +81,21 @@ public final class ObjectRows {
         if (count >= MOST_OBJECTS || kind == SAVE && saves >= MOST_SAVES) {
             return NO_ROOM;
         }
-        int made = makeOf(kind, size);
         now.storage += size * placeStorage(kind);
-        return made;
+        switch (kind) {
+            case STRING:
+                return addObject(kind, 0, bytes.addZeros(size), size);
+            case ARRAY:
+                return addObject(kind, 0, now.elements.addZeros(size), size);
+            case PACKED:
+                return makePacked(size);
+            case DICTIONARY:
+                return makeDictionary(size);
+            case SAVE:
+                return makeSave();
+            default:
+                return addObject(kind, size, 0, 0);
+        }
     }
 
     public int put(int object, int i, int v) {
@@ -354,23 +366,6 @@ public final class ObjectRows {
         return made;
     }
 
-    private int makeOf(int kind, int size) {
-        switch (kind) {
-            case STRING:
-                return addObject(kind, 0, bytes.addZeros(size), size);
-            case ARRAY:
-                return addObject(kind, 0, now.elements.addZeros(size), size);
-            case PACKED:
-                return makePacked(size);
-            case DICTIONARY:
-                return makeDictionary(size);
-            case SAVE:
-                return makeSave();
-            default:
-                return addObject(kind, size, 0, 0);
-        }
-    }
-
     private int makePacked(int size) {
         int first = count - size;
         int start = now.elements.addZeros(size);
@@ -467,6 +462,12 @@ public final class ObjectRows {
         if (kind == STRING || other == STRING) {
             return nameOf(a) != NO_NAME && nameOf(a) == nameOf(b);
         }
+        return alikeButStrings(a, b);
+    }
+
+    private boolean alikeButStrings(int a, int b) {
+        int kind = kinds.at(a);
+        int other = kinds.at(b);
         if (isList(kind) && isList(other) && lengths.at(a) == 0 && lengths.at(b) == 0) {
             return true;
         }
@@ -563,7 +564,7 @@ public final class ObjectRows {
         if (a >= FIRST_NAME_KEY || b >= FIRST_NAME_KEY) {
             return a == b;
         }
-        return alike(a, b);
+        return alikeButStrings(a, b);
     }
 
     private int keyCell(int dict, int place) {
@@ -681,7 +682,7 @@ public final class ObjectRows {
 
         void become(Row other) {
             reach(other.size);
-            size = other.size;
+            size = Math.min(other.size, Math.min(cells.length, other.cells.length));
             System.arraycopy(other.cells, 0, cells, 0, size);
         }
 

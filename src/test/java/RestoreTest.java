@@ -12,6 +12,7 @@ public final class RestoreTest {
         outerFirst();
         aSaveIsUsedAgain();
         newStoresBeginAnew();
+        newObjectsAreThemselves();
         storesBehindAStringStay();
         full();
         wrongNumbers();
@@ -194,6 +195,38 @@ public final class RestoreTest {
         due.is("GROWS", x.told(dict, Kinds.GROWS), 0);
         due.is("EXECUTABLE", x.told(array, Kinds.EXECUTABLE), 0);
         due.is("ACCESS", x.told(string, Kinds.ACCESS), 3);
+    }
+
+    /** Nothing of the objects that are gone shows in those that get their numbers. */
+    private static void newObjectsAreThemselves() {
+        ObjectRows x = new ObjectRows();
+        int save = x.make(Kinds.SAVE, 0);
+        x.make(Kinds.NUMBER, 77);
+        Kinds.text(x, "abcd");
+        x.part(3, 1, 2);
+        x.make(Kinds.DICTIONARY, 1);
+        x.part(5, 0, 0);
+        x.restore(save);
+        due.is("a NUMBER", x.told(x.make(Kinds.NUMBER, 5), Kinds.ITS_NUMBER), 5);
+        int string = Kinds.text(x, "efgh");
+        due.is("a part", x.get(x.part(string, 2, 2), 1), 'h');
+        int array = x.make(Kinds.ARRAY, 3);
+        x.put(array, 2, array);
+        due.is("a part", x.get(x.part(array, 1, 2), 1), array);
+        int first = x.make(Kinds.DICTIONARY, 1);
+        int second = x.make(Kinds.DICTIONARY, 2);
+        due.no("two dictionaries", x.same(first, second));
+        due.is("capacity", x.told(first, Kinds.CAPACITY), 1);
+        due.is("capacity", x.told(second, Kinds.CAPACITY), 2);
+        int other = x.part(second, 0, 0);
+        due.yes("one dictionary", x.same(second, other));
+        x.entry(other, array, string);
+        due.is("look in the second", x.look(second, array), string);
+        due.is("look in the first", x.look(first, array), -5);
+        int again = x.make(Kinds.SAVE, 0);
+        x.put(array, 2, 0);
+        x.restore(again);
+        due.is("what the SAVE kept", x.get(array, 2), array);
     }
 
     private static void storesBehindAStringStay() {
