@@ -19,6 +19,11 @@ final class Kinds {
     static final int ITS_NUMBER = 3;
     static final int CAPACITY = 4;
 
+    /** Calls that make one object of each kind, so that object k is of kind k. */
+    static final String ONE_OF_EACH = "make(NUMBER, 1); make(BOOLEAN, 1); make(NAME, 1); make(STRING, 1);"
+        + " make(ARRAY, 1); make(PACKED, 1); make(DICTIONARY, 1); make(MARK, 1); make(FILE, 1); make(OPERATOR, 1);"
+        + " make(SAVE, 1)";
+
     private Kinds() {
     }
 

@@ -1,10 +1,12 @@
+import java.util.Arrays;
+
 /** Long runs of calls, drawn from a fixed row of numbers, answer as the Model does. */
 public final class ModelTest {
     private static final int RUNS = 2000;
     private static final int CALLS = 512;
-    private static final long THROWN = Long.MIN_VALUE;
     private static final String[] NAMES = {"make", "put", "get", "part", "attribute", "told", "same", "compare",
         "length", "entry", "look", "kind", "used", "restore"};
+    private static final int[] ARGUMENTS = {2, 3, 2, 3, 3, 2, 2, 2, 1, 3, 2, 1, 0, 1};
     /** How often each call comes, of 100: everything, dictionaries, views, saves. */
     private static final int[][] SHARES = {
         {22, 10, 8, 10, 8, 6, 8, 5, 4, 8, 5, 2, 2, 2},
@@ -35,13 +37,14 @@ public final class ModelTest {
         int[] shares = SHARES[run % SHARES.length];
         int near = run % 3 == 0 ? 12 : 100;
         for (int k = 0; k < CALLS; k++) {
-            int call = drawn(shares);
-            int a = first(call, near);
-            int b = second(call, near);
-            int c = third(call, near, m.kind(a));
-            long got = answer(x, call, a, b, c);
-            long want = wanted(m, call, a, b, c);
-            due.is("run " + run + ", call " + k + ": " + NAMES[call] + "(" + a + ", " + b + ", " + c + ")", got, want);
+            int drawn = drawn(shares);
+            int a = first(drawn, near);
+            int b = second(drawn, near);
+            int c = third(drawn, near, m.kind(a));
+            Call call = new Call(NAMES[drawn], Arrays.copyOf(new int[] {a, b, c}, ARGUMENTS[drawn]));
+            long got = call.on(x);
+            long want = call.on(m);
+            due.is("run " + run + ", call " + k + ": " + call, got, want);
             if (got != want) {
                 return;
             }
@@ -95,51 +98,6 @@ public final class ModelTest {
             case 3: return small();
             case 4: return below(3) == 0 ? below(5) - 1 : 1 + below(3);
             default: return object(near);
-        }
-    }
-
-    private static long answer(ObjectRows x, int call, int a, int b, int c) {
-        switch (call) {
-            case 0: return x.make(a, b);
-            case 1: return x.put(a, b, c);
-            case 2:
-                try {
-                    return x.get(a, b);
-                } catch (ArrayIndexOutOfBoundsException e) {
-                    return THROWN;
-                }
-            case 3: return x.part(a, b, c);
-            case 4: return x.attribute(a, b, c);
-            case 5: return x.told(a, b);
-            case 6: return x.same(a, b) ? 1 : 0;
-            case 7: return x.compare(a, b);
-            case 8: return x.length(a);
-            case 9: return x.entry(a, b, c);
-            case 10: return x.look(a, b);
-            case 11: return x.kind(a);
-            case 12: return x.used();
-            default: return x.restore(a);
-        }
-    }
-
-    private static long wanted(Model m, int call, int a, int b, int c) {
-        switch (call) {
-            case 0: return m.make(a, b);
-            case 1: return m.put(a, b, c);
-            case 2:
-                Integer got = m.get(a, b);
-                return got == null ? THROWN : got;
-            case 3: return m.part(a, b, c);
-            case 4: return m.attribute(a, b, c);
-            case 5: return m.told(a, b);
-            case 6: return m.same(a, b) ? 1 : 0;
-            case 7: return m.compare(a, b);
-            case 8: return m.length(a);
-            case 9: return m.entry(a, b, c);
-            case 10: return m.look(a, b);
-            case 11: return m.kind(a);
-            case 12: return m.used();
-            default: return m.restore(a);
         }
     }
 }
