@@ -27,13 +27,8 @@ final class Kinds {
     private Kinds() {
     }
 
-    /** One object of each kind, so that object k is of kind k. */
     static ObjectRows oneOfEach() {
-        ObjectRows x = new ObjectRows();
-        for (int kind = 1; kind <= SAVE; kind++) {
-            x.make(kind, 1);
-        }
-        return x;
+        return Run.of(ONE_OF_EACH).made();
     }
 
     /** A STRING with these characters as its bytes. */

@@ -74,11 +74,19 @@ public final class TermsSavesEdgesTest {
         // views and dictionaries of stores that stay
         t.after("make(STRING, 2); make(DICTIONARY, 1); make(SAVE, 0); part(1, 0, 1); part(2, 0, 0); restore(3)");
         t.is("kind(4)", -1);
-        t.is("make(STRING, 1)", 3);
-        t.is("put(3, 0, 9)", 1);
+        t.is("kind(5)", -1);
+        t.is("make(MARK, 0)", 3);
+        t.is("make(STRING, 1)", 4);
+        t.is("put(4, 0, 9)", 1);
         t.is("get(1, 0)", 0);
-        t.is("make(DICTIONARY, 0)", 4);
-        t.is("same(2, 4)", 0);
+        t.is("make(DICTIONARY, 3)", 5);
+        t.is("same(2, 5)", 0);
+        t.is("told(2, CAPACITY)", 1);
+        t.is("told(5, CAPACITY)", 3);
+        t.is("entry(5, 3, 3)", 1);
+        t.is("look(2, 3)", -5);
+        t.is("attribute(5, ACCESS, 1)", 1);
+        t.is("told(2, ACCESS)", 3);
         // PACKED ones that stay hold what stays
         t.after("make(MARK, 0); make(PACKED, 2); make(SAVE, 0); make(PACKED, 4); restore(3)");
         t.is("get(2, 0)", 0);
