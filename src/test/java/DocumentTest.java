@@ -22,6 +22,11 @@ public final class DocumentTest {
     private static final Due due = new Due();
 
     public static void main(String[] args) throws IOException {
+        if (!Files.exists(DOCUMENT)) {
+            // a checkout without the document can still be tested by all the other tests
+            System.out.println(DOCUMENT + " is not there: nothing to compare with");
+            return;
+        }
         Map<String, String> sections = sections(Files.readString(DOCUMENT));
         Map<String, String> tried = tried();
         due.is("sections with promises", sections.keySet().stream().filter(s -> s.startsWith("Promise ")).count(), 15);
